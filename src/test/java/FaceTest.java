@@ -7,11 +7,24 @@ import java.util.TreeSet;
 /** The face is the document's, and nothing else is seen from outside. */
 public final class FaceTest {
     private static final String[] FACE = {
-        "boolean pardon(int)", "double share()", "int advise(int,int)", "int baker(int,int)",
-        "int count(int)", "int deal(int,int)", "int foresee(int,int)", "int lasts()",
-        "int open(int,int)", "int pass(int)", "int setGate(int,int)", "int setPeople(int)",
-        "int smoke(int)", "int store(int,int)", "int swear(int,int,int,int)", "int weigh(int)",
-        "int whose(int)", "long digest()"};
+        "boolean pardon(int) throws IndexOutOfBoundsException",
+        "double share()",
+        "int advise(int,int) throws IndexOutOfBoundsException IllegalArgumentException",
+        "int baker(int,int) throws IndexOutOfBoundsException",
+        "int count(int) throws IndexOutOfBoundsException",
+        "int deal(int,int) throws IndexOutOfBoundsException IllegalArgumentException",
+        "int foresee(int,int) throws IllegalArgumentException IndexOutOfBoundsException",
+        "int lasts()",
+        "int open(int,int) throws IllegalArgumentException IllegalStateException",
+        "int pass(int) throws IllegalArgumentException",
+        "int setGate(int,int) throws IndexOutOfBoundsException IllegalArgumentException",
+        "int setPeople(int) throws IllegalArgumentException",
+        "int smoke(int) throws IndexOutOfBoundsException",
+        "int store(int,int) throws IndexOutOfBoundsException",
+        "int swear(int,int,int,int) throws IndexOutOfBoundsException IllegalArgumentException IllegalStateException",
+        "int weigh(int) throws IndexOutOfBoundsException IllegalStateException",
+        "int whose(int) throws IllegalArgumentException",
+        "long digest()"};
 
     public static void main(String[] args) {
         TreeSet<String> seen = new TreeSet<>();
@@ -46,7 +59,11 @@ public final class FaceTest {
         for (int i = 0; i < m.getParameterCount(); i++) {
             text.append(i == 0 ? "" : ",").append(m.getParameterTypes()[i].getName());
         }
-        return text.append(')').toString();
+        text.append(')');
+        for (int i = 0; i < m.getExceptionTypes().length; i++) {
+            text.append(i == 0 ? " throws " : " ").append(m.getExceptionTypes()[i].getSimpleName());
+        }
+        return text.toString();
     }
 
     private static String name(String signature) {
