@@ -25,6 +25,7 @@ public final class HourEdgesTest {
         bakersBakeAtMostFour();
         bakersWhoAreBarredBakeNothing();
         bakedFlourIsGone();
+        loavesHaveNoMost();
         bakersBakeInTheHourOfTheirRation();
         bakersBakeBeforeNoonsSale();
         loavesAreBoughtInTheHour12Only();
@@ -359,6 +360,22 @@ public final class HourEdgesTest {
             Check.same("at hand behind the hour " + hour, x.baker(0, 3), atHand[hour]);
         }
         Check.same("it is not in the store", x.store(0, 0), 810);
+    }
+
+    // "as many loaves as they have flour at hand for": no most is named for the loaves on a shelf
+    private static void loavesHaveNoMost() {
+        LoafMarks x = TestTown.withBaker(900, 5, 90);
+        x.setPeople(0);
+        x.setGate(6, 99);
+        x.setGate(18, 99);
+        for (int i = 0; i < 500; i++) {
+            x.pass(240);
+        }
+        Check.same("18 loaves a day, for 5000 days", x.baker(0, 5), 90000);
+        Check.same("on all shelves", x.count(4), 90000);
+        x.setPeople(500);
+        Check.same("enough for all", x.pass(240), 0);
+        Check.same("10 days on", x.baker(0, 5), 90000 + 180 - 5000);
     }
 
     // Step 2 is before step 3: the ration is there when they bake.
